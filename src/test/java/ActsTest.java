@@ -99,55 +99,51 @@ public final class ActsTest {
         due.told("done", x, 8, 1, 2, 3, 4, 9);
         due.is("water", x.apparatus(0, 2), 55);
         due.is("heat", x.apparatus(0, 3), 1005);
-        // A check that another body calls, while the template's check is under way.
-        x = house("open check { less 5 { refuse 77; } try { call before; } rescue { } }"
-            + " open before { less 9 { call step; } } open step { call close; } open close { less 7 { call after; } }"
-            + " open after { } ");
-        ends(x, 3, 1, 77);
-        ends(x, 6, 0, 0);
+        // Called from a body of another hook, while the template's check is under way.
+        x = house("open check { less 5 { call step; say 1; } } open step { try { call before; } rescue { } say 2; }");
+        ends(x, 4, 0, 0);
+        due.told("nothing is refused", x, 1, 2, 1, 1, 1, 2, 3, 4, 5);
         x = new StillHouse();
-        due.taken(x, "pack p { kind b under still { open check { refuse 4; } } kind c under b { open check { call step; }"
-            + " open step { call close; } open close { try { call after; } rescue { } } open after { up; call note; }"
-            + " note { say 1; } } kind d under c { open check { less 500 { up; } else { less 600 { call step; } } } } }");
+        due.taken(x, "pack p { kind b under still { open check { refuse a; } }"
+            + " kind c under b { open check { call step; say 1; } open step { try { call close; } rescue { } say 2; }"
+            + " open close { less 5 { call after; } } open after { less 5 { call note; } } note { say 3; } }"
+            + " kind d under c { note { say 4; call before; } open before { say 6; } } }");
         due.is("make", x.make(5, 100), 0);
         ends(x, 1, 0, 0);
-        due.is("make", x.make(3, 100), 1);
-        due.is("act", x.act(1, 1), 1);
-        due.is("outcome", x.outcome(0), 4);
+        due.told("calls within a check", x, 4, 6, 2, 1, 6, 4, 6, 2, 4, 6, 4, 4, 6);
+        x = new StillHouse();
+        due.taken(x, "pack p { kind b under still { open check { try { take 1; } rescue { refuse a; } call step; say 1; }"
+            + " open step { try { call check; } rescue { say 2; } say 3; } } }");
+        due.is("make", x.make(3, 100), 0);
+        due.is("charge", x.charge(0, 2, 0), 2);
+        ends(x, 44, 1, 44);
+        due.told("a check within steps ends the check", x);
+        due.ran("a check within steps ends the check", x, 3, 0, 0, 3, 2, 1, 3, 0, 2, 3, 2, 3, 3, 0, 4);
     }
 
     private static void lateRefusals() {
-        StillHouse x = house("open check { less 5 { } else { refuse 3; } } open before { less 4 { } else { fail 8; } }");
-        ends(x, 5, 1, 3);
-        ends(x, 4, 2, 8);
-        x = new StillHouse();
-        due.taken(x, "pack p { kind b under still { open check { refuse a; } open step { less 9 { up; } else { call check; } } }"
-            + " kind c under b { open check { less 600 { } else { up; } } }"
-            + " kind d under c { open check { less 500 { } else { less 800 { } else { up; } } }"
-            + " open step { less 700 { try { call check; add 1; } rescue { say 55; } } else { call check; } } } }");
-        due.is("make", x.make(4, 100), 0);
-        ends(x, 599, 0, 0);
-        ends(x, 600, 1, 600);
-        StillHouse y = new StillHouse();
-        due.taken(y, "pack p { kind b under still { open check { less 500 { call close; } else { up; } }"
-            + " open before { call check; } open close { less 300 { say 200; } else { call note; } }"
-            + " open note { less 400 { say 1; } } } }");
-        due.is("make", y.make(3, 100), 0);
-        ends(y, 350, 0, 0);
-        y = new StillHouse();
-        // The check adds water, so that it refuses only when it is called once more.
-        due.taken(y, "pack p { kind b under still { open check { try { take 1; add 1; } rescue { fail 1; } refuse a; } }"
-            + " kind c under b { open check { try { take 1; } rescue { refuse 12; } }"
+        // The check takes water, so that it refuses only when it is called once more.
+        StillHouse x = new StillHouse();
+        due.taken(x, "pack p { kind b under still { open check { try { take 1; } rescue { refuse 12; } }"
             + " open step { less 10 { call check; } else { try { call check; } rescue { say 66; } } } } }");
-        due.is("make", y.make(4, 100), 0);
-        ends(y, 5, 1, 12);
-        due.is("charge", y.charge(0, 1, 0), 1);
-        ends(y, 5, 2, 2012);
-        due.ran("late refusal", y, 4, 0, 0, 0, 1, 0, 4, 2, 0, 4, 0, 1, 0, 5, 0);
-        ends(y, 10, 0, 0);
-        due.told("a late refusal is rescued", y, 1, 66, 3, 4, 5);
-        due.is("water", y.apparatus(0, 2), 0);
-        due.is("taken", y.all(3), 1);
+        due.is("make", x.make(3, 100), 0);
+        ends(x, 5, 1, 12);
+        due.is("charge", x.charge(0, 1, 0), 1);
+        ends(x, 5, 2, 2012);
+        due.ran("late refusal", x, 3, 0, 0, 0, 1, 0, 3, 2, 0, 3, 0, 1, 0, 5, 0);
+        ends(x, 10, 0, 0);
+        due.told("a late refusal is rescued", x, 1, 66, 3, 4, 5);
+        due.is("water", x.apparatus(0, 2), 0);
+        due.is("taken", x.all(3), 1);
+        // From close, when all else is done.
+        x = new StillHouse();
+        due.taken(x, "pack p { kind b under still { open check { try { take 1; } rescue { refuse a; } }"
+            + " open close { call check; } } }");
+        due.is("make", x.make(3, 100), 0);
+        due.is("charge", x.charge(0, 1, 0), 1);
+        ends(x, 999, 2, 2999);
+        due.is("charge", x.charge(0, 1, 0), 2);
+        ends(x, 999, 0, 0);
     }
 
     private static void failing() {
