@@ -1077,9 +1077,12 @@ public final class StillHouse {
             return null;
         }
 
-        /** CHOSEN for a body and this kind; null if this kind is neither the body's own nor under it. */
+        /**
+         * CHOSEN for a body and this kind; null if this kind is neither the body's own nor under it, as then neither
+         * the body nor one that overrides it is met on the way up.
+         */
         Body choose(Body wanted) {
-            if (wanted == null || !isOrIsUnder(wanted.kind)) {
+            if (wanted == null) {
                 return null;
             }
             for (Kind kind = this; kind != null; kind = kind.above) {
@@ -1089,15 +1092,6 @@ public final class StillHouse {
                 }
             }
             return null;
-        }
-
-        private boolean isOrIsUnder(Kind other) {
-            for (Kind kind = this; kind != null; kind = kind.above) {
-                if (kind == other) {
-                    return true;
-                }
-            }
-            return false;
         }
     }
 

@@ -12,6 +12,7 @@ public final class ActsTest {
         failingChecks();
         waterAndHeat();
         choices();
+        deepBlocks();
         upsAndCalls();
         spentByTicks();
         spentByBodies();
@@ -237,6 +238,19 @@ public final class ActsTest {
         x = house("open step { try { call before; say 35; } rescue { say 36; } } open before { say a; less 2 { fail 3; } }");
         ends(x, 2, 0, 0);
         ends(x, 1, 2, 3);
+    }
+
+    /** The innermost block that there may be is run, by each way into it. */
+    private static void deepBlocks() {
+        String[] ways = {"less 5 {", "less 1 { } else {", "try {", "try { fail 1; } rescue {"};
+        int[] ticks = {5, 5, 5, 10};
+        for (int i = 0; i < ways.length; i++) {
+            String ends = i == 2 ? "} rescue { } " : "} ";
+            StillHouse x = house("open step { " + ways[i].repeat(5) + " say 30; " + ends.repeat(5) + "}");
+            ends(x, 3, 0, 0);
+            due.told(ways[i], x, 0, 1, 30, 3, 4, 5);
+            due.is("ticks of " + ways[i], x.outcome(3), 5 + ticks[i] + 1);
+        }
     }
 
     private static void upsAndCalls() {

@@ -10,6 +10,7 @@ public final class FaultsTest {
         ups();
         calls();
         refusals();
+        deep();
         firstOfSeveral();
         full();
         due.end();
@@ -104,6 +105,16 @@ public final class FaultsTest {
         due.fault("pack p { kind k under still { note { try { } rescue { ^refuse a; } } } }", 7);
         due.fault("pack p { kind k under still { open close { less 1 { say 1; ^refuse a; } } } }", 7);
         due.taken(new StillHouse(), "pack p { kind k under still { open check { less 1 { refuse a; } else { refuse 1; } } } }");
+    }
+
+    /** In the innermost block that there may be, by each way into it. */
+    private static void deep() {
+        String[] ways = {"less 5 {", "less 5 { } else {", "try {", "try { } rescue {"};
+        for (String way : ways) {
+            String ends = way.equals("try {") ? "} rescue { } " : "} ";
+            due.fault("pack p { kind k under still { note { " + way.repeat(5) + " ^up; " + ends.repeat(5) + "} } }", 6);
+            due.fault("pack p { kind k under still { note { " + way.repeat(5) + " ^refuse 1; " + ends.repeat(5) + "} } }", 7);
+        }
     }
 
     private static void firstOfSeveral() {

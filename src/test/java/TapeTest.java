@@ -201,6 +201,7 @@ public final class TapeTest {
         due.taken(new StillHouse(), head + "try {} rescue {".repeat(5) + "}".repeat(5) + "} } }");
         due.fault(head + "try {} rescue {".repeat(5) + "try ^{", 1);
         due.taken(new StillHouse(), head + "less a {} else {".repeat(5) + "}".repeat(5) + "} } }");
+        due.fault(head + "less a {} else {".repeat(5) + "less a ^{} }", 1);
         // Blocks behind one another are not within one another.
         due.taken(new StillHouse(), head + "less 5 {} else {} try {} rescue {}".repeat(8) + "} } }");
     }
