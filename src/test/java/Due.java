@@ -1,8 +1,15 @@
+import java.io.IOException;
 import java.nio.charset.StandardCharsets;
+import java.nio.file.Files;
+import java.nio.file.Path;
 
 /** Compares answers with those that are due, and ends a test with exit code 1 if one was wrong. */
 final class Due {
+    private static final Path DOCUMENT = Path.of("../shared/DOC.md");
+
     private final String test;
+    private String sentence = "";
+    private int sentences = 0;
     private int wrong = 0;
     private int asked = 0;
 
@@ -14,7 +21,24 @@ final class Due {
         asked++;
         if (got != want) {
             wrong++;
-            System.out.println(test + ": " + call + " answered " + got + ", due is " + want);
+            System.out.println(test + ": " + call + " answered " + got + ", due is " + want + sentence);
+        }
+    }
+
+    /** What is asked from here on is asked for these words, which must stand in the document as they are here. */
+    void sentence(String words) {
+        sentences++;
+        sentence = " (\"" + words + "\")";
+        if (Files.exists(DOCUMENT)) {
+            is("the document has the sentence", document().contains(words) ? 1 : 0, 1);
+        }
+    }
+
+    private static String document() {
+        try {
+            return Files.readString(DOCUMENT).replaceAll("\\s+", " ");
+        } catch (IOException e) {
+            return "";
         }
     }
 
@@ -74,7 +98,8 @@ final class Due {
     }
 
     void end() {
-        System.out.println(test + ": " + asked + " answers, " + wrong + " wrong");
+        String of = sentences == 0 ? "" : " of " + sentences + " sentences";
+        System.out.println(test + ": " + asked + " answers" + of + ", " + wrong + " wrong");
         if (wrong != 0) {
             System.exit(1);
         }

@@ -21,23 +21,28 @@ public final class RandomRunsTest {
     }
 
     public static void main(String[] args) {
-        for (int seed = 0; seed < 1500; seed++) {
-            new RandomRunsTest(seed).run();
+        for (int seed = 0; seed < 4000; seed++) {
+            new RandomRunsTest(seed).run(seed % 2 == 0);
         }
         due.end();
     }
 
-    private void run() {
-        for (int i = 0; i < 6; i++) {
+    /** Either few changes, each looked at from all sides, or many: an object is used for 512 calls alone. */
+    private void run(boolean closely) {
+        for (int i = 0; i < 2; i++) {
             aPack();
             x.make(random.nextInt(x.count(0)), 100 + random.nextInt(200));
         }
-        for (int i = 0; i < 40; i++) {
-            aChange();
-            due.is("water adds up", x.all(0), x.all(1) + x.all(2) - x.all(3));
-            due.is("heat adds up", x.all(4), x.all(5) + x.all(6));
-            aQuestion();
+        for (int i = 0; i < (closely ? 3 : 50); i++) {
+            if (closely) {
+                aChangeSeenClosely();
+            } else {
+                aChange();
+            }
         }
+        due.is("water adds up", x.all(0), x.all(1) + x.all(2) - x.all(3));
+        due.is("heat adds up", x.all(4), x.all(5) + x.all(6));
+        aQuestion();
         for (int records = x.count(3); records > 0; records--) {
             due.is("undo", x.undo(), records - 1);
         }
@@ -127,20 +132,23 @@ public final class RandomRunsTest {
         return text.toString();
     }
 
-    private void aChange() {
+    private void aChangeSeenClosely() {
         String ahead = state();
         int records = x.count(3);
-        boolean done;
-        switch (random.nextInt(6)) {
-            case 0: done = x.charge(number(), number(), number()) >= 0; records++; break;
-            case 1: done = x.pour(number() % 8, number() % 8, number()) >= 0; records++; break;
-            case 2: done = x.undo() >= 0; records--; break;
-            default: done = x.act(number() % 8, number()) == 0; records++; break;
-        }
-        if (done) {
-            due.is("a record more or less", x.count(3), records);
-        } else {
+        int more = aChange();
+        due.is("a record more or less", x.count(3), records + more);
+        if (more == 0) {
             due.is("nothing changes", state().equals(ahead) ? 1 : 0, 1);
+        }
+    }
+
+    /** How many records there should be more. */
+    private int aChange() {
+        switch (random.nextInt(6)) {
+            case 0: return x.charge(number() % 4, number(), number()) >= 0 ? 1 : 0;
+            case 1: return x.pour(number() % 4, number() % 4, number()) >= 0 ? 1 : 0;
+            case 2: return x.undo() >= 0 ? -1 : 0;
+            default: return x.act(number() % 4, number()) == 0 ? 1 : 0;
         }
     }
 
