@@ -34,6 +34,7 @@ public final class EdgesOfActsTest {
         lateRefusal();
         eachActionIsATick();
         fourHundredTicks();
+        mostBodies();
         spentAtOnceByTicks();
         twelveUnderWay();
         spentAtOnceByBodies();
@@ -296,6 +297,13 @@ public final class EdgesOfActsTest {
         due.is("the greatest size", x.act(2, 2), FAILED);
         due.is("the greatest size", x.act(2, 1), DONE);
         due.is("water", x.apparatus(2, 2), 10000);
+        // Heat up to the most leaves room for water.
+        due.is("charge", x.charge(1, 0, 100000), 0);
+        due.is("make", x.make(3, 5), 3);
+        due.is("charge", x.charge(3, 0, 100000), 0);
+        due.is("act", x.act(1, 1), FAILED);
+        due.is("act", x.act(3, 6), FAILED);
+        due.is("act", x.act(3, 5), DONE);
     }
 
     private static void takeUpToTheWater() {
@@ -325,7 +333,7 @@ public final class EdgesOfActsTest {
         due.is("heat", x.apparatus(0, 3), 100000);
         ends(x, 1, FAILED, 1002);
         ends(x, 0, DONE, 0);
-        // The heat of another apparatus is not of this one.
+        // Water up to the size leaves room for heat, as does the heat of another apparatus.
         due.is("make", x.make(3, 0), 1);
         due.is("act", x.act(1, 999), DONE);
         due.is("heat", x.apparatus(1, 3), 999);
@@ -480,6 +488,26 @@ public final class EdgesOfActsTest {
             due.is("ticks", x.outcome(3), spent ? 400 : 395 + behind);
             due.is("told", x.outcome(2), (spent ? 400 : 395 + behind) - 6);
             due.is("records", x.count(3), spent ? 1 : 2);
+        }
+    }
+
+    /** The most bodies that there can be: each tick runs one, and the template six. */
+    private static void mostBodies() {
+        due.sentence("1 how many bodies were run");
+        for (int more = 8; more <= 10; more++) {
+            StillHouse x = new StillHouse();
+            due.taken(x, "pack p with house { kind m under still { open check { } open before { } open after { } open note { } "
+                + "open close { } } kind b under m { open before { " + "up; ".repeat(more) + "} open step { "
+                + "call after; ".repeat(6) + "} open after { " + "up; ".repeat(55) + "} } }");
+            due.is("make", x.make(4, 0), 0);
+            // before more, step 6 + 6 * 55, after 55: 391 and more.
+            ends(x, 0, more > 9 ? SPENT : DONE, 0);
+            int ticks = Math.min(391 + more, 400);
+            due.is("ticks", x.outcome(3), ticks);
+            due.is("bodies", x.outcome(1), more > 9 ? 4 + ticks : 6 + ticks);
+            due.is("the last one", x.ran(x.outcome(1) - 1, 1), more > 9 ? 3 : 5);
+            due.is("behind it", x.ran(x.outcome(1), 1), -1);
+            due.is("told", x.outcome(2), 0);
         }
     }
 

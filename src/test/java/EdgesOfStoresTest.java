@@ -551,6 +551,11 @@ public final class EdgesOfStoresTest {
         }
         due.is("call 512", x.undo(), 509);
         x = new StillHouse();
+        due.is("call 1", x.make(2, 10000), 0);
+        for (int call = 2; call <= 512; call++) {
+            due.is("call " + call, x.charge(0, 2, 1), 2 * call - 2);
+        }
+        x = new StillHouse();
         for (int call = 1; call <= 511; call++) {
             due.is("call " + call, x.found(0), -1);
         }

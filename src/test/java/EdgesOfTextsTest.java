@@ -40,6 +40,7 @@ public final class EdgesOfTextsTest {
         mostKinds();
         mostActions();
         mostBraces();
+        innermostActions();
         due.end();
     }
 
@@ -523,6 +524,26 @@ public final class EdgesOfTextsTest {
             due.taken(new StillHouse(), STEP + (openings[i] + ends[i]).repeat(9) + "} open close { less 5 { } } } }");
         }
         due.fault(STEP + "less 5 {".repeat(5) + " less 5 ^; ", 1);
+        due.fault(STEP + "less 5 {".repeat(5) + " less 5 ^else { } ", 1);
         due.fault(STEP + "try {".repeat(5) + " try ^up; ", 1);
+        due.fault(STEP + "try {".repeat(5) + " try ^rescue { } ", 1);
+    }
+
+    /** What stands within six of them is looked at as all else is, and run. */
+    private static void innermostActions() {
+        due.sentence("6 { within one another in a BODY (its own is one)");
+        String[] openings = {"less 5 {", "less 4 { } else {", "try {", "try { fail 1; } rescue {"};
+        String[] ends = {"} ", "} ", "} rescue { } ", "} "};
+        for (int i = 0; i < openings.length; i++) {
+            String five = openings[i].repeat(5);
+            String closings = ends[i].repeat(5) + "} } }";
+            due.fault(STEP + five + " ^refuse 1; " + closings, 7);
+            due.fault(STEP + five + " call ^note; " + closings, 6);
+            StillHouse x = new StillHouse();
+            due.taken(x, STEP + five + " say 30; " + closings);
+            due.is("make", x.make(3, 0), 0);
+            due.is("act", x.act(0, 4), 0);
+            due.told(five, x, 0, 1, 30, 3, 4, 5);
+        }
     }
 }
