@@ -116,6 +116,19 @@ public final class EdgesOfFaultsTest {
         due.is("retire", x.retire(0), 1);
         due.fault(x, "pack q { kind ^abcdefgh under still { } }", 2);
         due.taken(x, "pack q { kind abcdefgi under still { } kind bbcdefgh under still { } kind abcdefg under still { } }");
+        // Names of other lengths or orders are other names, whichever letters they begin or end with.
+        String[] alike = {"b", "ab", "aab", "ba", "aa", "aaa", "aaaaaaaa", "z", "az", "za", "zzzzzzzz", "azzzzzzz", "zzzzzzza"};
+        for (String one : alike) {
+            due.fault("pack p { kind " + one + " under still { } kind ^" + one + " under still { } }", 2);
+            for (String other : alike) {
+                if (!other.equals(one)) {
+                    due.taken(new StillHouse(), "pack p { kind " + one + " under still { } kind " + other + " under still { } }");
+                    due.fault("pack p { kind " + one + " under still { } kind k under ^" + other + " { } }", 2);
+                    due.fault(houseWith("pack " + one + " { kind k under still { } }"),
+                        "pack p with ^" + other + " { kind l under still { } }", 2);
+                }
+            }
+        }
     }
 
     private static void nameAfterUnder() {

@@ -112,6 +112,20 @@ public final class EdgesOfTextsTest {
         due.is("m is under still", x.kind(3, 1), 0);
         due.is("l is under pot", x.kind(4, 1), 1);
         due.is("k is under m", x.kind(5, 1), 3);
+        // What an earlier and longer text had there is no part of the next one's last word.
+        String[] texts = {"pack^", "pack p^", "pack p { kind k^", STEP + " say 1^", STEP + " say 123^", "pack p { " + KIND + " }"};
+        String[] earlier = {"z".repeat(80), "7".repeat(80), " ".repeat(80), "}".repeat(80), ";".repeat(80)};
+        for (String text : texts) {
+            for (String longer : earlier) {
+                StillHouse y = new StillHouse();
+                due.fault(y, (longer.isBlank() ? "" : "^") + longer + (longer.isBlank() ? "^" : ""), 1);
+                if (text.contains("^")) {
+                    due.fault(y, text, 1);
+                } else {
+                    due.taken(y, text);
+                }
+            }
+        }
     }
 
     private static void faultChangesNothing() {
