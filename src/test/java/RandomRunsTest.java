@@ -17,7 +17,8 @@ public final class RandomRunsTest {
     private int names = 0;
 
     private RandomRunsTest(long seed) {
-        random = new Random(seed);
+        // Seeds that stand side by side would all draw the same number first.
+        random = new Random(seed * 0x9E3779B97F4A7C15L);
     }
 
     public static void main(String[] args) {
